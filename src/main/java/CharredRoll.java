@@ -1002,8 +1002,9 @@ public final class CharredRoll {
             return (one >> FIT_SHIFT << FIT_SHIFT) + both;
         }
 
+        /** How many windows begin no higher than PLACE 0 can be with all TURNS outside it. */
         private int firstWindows(int slice) {
-            return (highAt(slice, 0) + 1) * codes;
+            return (scan.radii - scan.turns[slice] + 1) * codes;
         }
 
         private void weighAll(int slice, int toCome) {
