@@ -709,7 +709,7 @@ public final class CharredRoll {
 
         boolean someLike(int shape, int least) {
             for (int letter = 0; letter < letters; letter++) {
-                if (like(letter, shape) >= least) {
+                if (BOX_BITS - Integer.bitCount(letterBits[letter] ^ shape) >= least) {
                     return true;
                 }
             }
@@ -816,8 +816,8 @@ public final class CharredRoll {
         final int codes;
         /** By code and place within a window: how far the radius is from the first one. */
         final int[] shape;
-        final int[] lowest;
-        final int[] highest;
+        /** By code: from the first radius to the last. */
+        final int[] rise;
         /** By code: the change from the first radius to the second, and the code of the rest with a 0 behind it. */
         final int[] head;
         final int[] tail;
@@ -826,7 +826,7 @@ public final class CharredRoll {
         int liveCount;
         /** By places to come and window: the best FIT of those places and the ways to it in one number, 0 without. */
         final int[] ahead;
-        /** By radius: what the place that is being joined adds to such a number; NONE where a PIN forbids it. */
+        /** By place and radius: what it adds to such a number; NONE where a PIN forbids it. */
         final int[] gain;
         int firstLow;
         int firstHigh;
@@ -840,12 +840,11 @@ public final class CharredRoll {
             this.scan = scan;
             codes = Math.max(1, (int) power(3, scan.angles - 1));
             shape = new int[codes * scan.angles];
-            lowest = new int[codes];
-            highest = new int[codes];
             head = new int[codes];
             tail = new int[codes];
+            rise = new int[codes];
             live = new int[codes];
-            gain = new int[scan.radii];
+            gain = new int[MOST_PLACES * scan.radii];
             ahead = new int[((MOST_TURNS - 1) * scan.angles + 1) * scan.radii * codes];
             // With no place to come every window has one way on, and nothing is added.
             for (int window = 0; window < scan.radii * codes; window++) {
@@ -864,19 +863,14 @@ public final class CharredRoll {
                 unit = Math.max(1, unit / 3);
                 shape[start + i] = shape[start + i - 1] + rest / unit - 1;
                 rest %= unit;
-                lowest[code] = Math.min(lowest[code], shape[start + i]);
-                highest[code] = Math.max(highest[code], shape[start + i]);
             }
             head[code] = shape[start + 1];
             tail[code] = code * 3 % codes;
-            if (rise(code) >= 0) {
+            rise[code] = shape[start + scan.angles - 1];
+            if (rise[code] >= 0) {
                 live[liveCount] = code;
                 liveCount++;
             }
-        }
-
-        private int rise(int code) {
-            return shape[code * scan.angles + scan.angles - 1];
         }
 
         void forget(int slice) {
@@ -893,6 +887,7 @@ public final class CharredRoll {
             if (!known[slice]) {
                 known[slice] = true;
                 int toCome = scan.places(slice) - scan.angles;
+                fillGain(slice);
                 for (int left = 1; left <= toCome; left++) {
                     fillAhead(slice, left);
                 }
@@ -944,51 +939,70 @@ public final class CharredRoll {
             return scan.radii - scan.turns[slice] + scan.turnOf(place);
         }
 
-        /** Makes ready for the place that comes behind windows with so many places to come. */
-        private void prepare(int slice, int left) {
-            int place = scan.places(slice) - left;
-            int pinned = scan.pinned[slice * MOST_PLACES + place];
-            int angle = scan.angleOf(place);
-            for (int radius = 0; radius < scan.radii; radius++) {
-                boolean may = pinned == NONE || pinned == radius;
-                gain[radius] = may ? scan.greyAt(slice, angle, radius) << FIT_SHIFT : NONE;
-            }
-            firstLow = lowAt(place - scan.angles + 1);
-            firstHigh = highAt(slice, place - scan.angles + 1);
-        }
-
-        private void fillAhead(int slice, int left) {
-            prepare(slice, left);
-            int place = scan.places(slice) - left - scan.angles;
-            int high = highAt(slice, place);
-            for (int radius = lowAt(place); radius <= high; radius++) {
-                int row = (left * scan.radii + radius) * codes;
-                for (int i = 0; i < liveCount; i++) {
-                    ahead[row + live[i]] = bestOnward(left, radius, live[i]);
+        private void fillGain(int slice) {
+            int places = scan.places(slice);
+            for (int place = 0; place < places; place++) {
+                int pinned = scan.pinned[slice * MOST_PLACES + place];
+                int angle = scan.angleOf(place);
+                for (int radius = 0; radius < scan.radii; radius++) {
+                    boolean may = pinned == NONE || pinned == radius;
+                    int add = scan.greyAt(slice, angle, radius) << FIT_SHIFT;
+                    gain[place * scan.radii + radius] = may ? add : NONE;
                 }
             }
         }
 
-        private int bestOnward(int left, int radius, int code) {
-            if (radius + lowest[code] < 0 || radius + highest[code] >= scan.radii) {
+        private void fillAhead(int slice, int left) {
+            int place = scan.places(slice) - left;
+            int start = place - scan.angles;
+            boundFirst(slice, start + 1);
+            int high = highAt(slice, start);
+            for (int radius = lowAt(start); radius <= high; radius++) {
+                int row = (left * scan.radii + radius) * codes;
+                for (int i = 0; i < liveCount; i++) {
+                    ahead[row + live[i]] = bestOnward(left, place, radius, live[i]);
+                }
+            }
+        }
+
+        /** Between which radii a window that starts at a place may begin, by the TURNS within it and outside it. */
+        private void boundFirst(int slice, int place) {
+            firstLow = lowAt(place);
+            firstHigh = highAt(slice, place);
+        }
+
+        private int bestOnward(int left, int place, int radius, int code) {
+            int behind = windowBehind(left, radius, code);
+            if (behind == NONE) {
                 return 0;
             }
+            int to = radius + rise[code] - 1;
             int best = 0;
-            for (int change = 0; change < 3; change++) {
-                best = better(best, onward(left, radius, code, change));
+            for (int change = leastChange(code); change < 3; change++) {
+                best = better(best, onward(behind + change, place, to + change));
             }
             return best;
         }
 
-        /** The best of what is to come if the next place's radius is changed by one less than told, 0 without. */
-        private int onward(int left, int radius, int code, int change) {
-            int to = radius + rise(code) + change - 1;
+        /** The place behind a window is above its first: by what the window rises, less than this can't be. */
+        private int leastChange(int code) {
+            return Math.max(0, 2 - rise[code]);
+        }
+
+        /** Where in ahead the windows are that follow a window, by their last change; NONE without. */
+        private int windowBehind(int left, int radius, int code) {
             int first = radius + head[code];
-            if (to <= radius || to >= scan.radii || gain[to] == NONE || first < firstLow || first > firstHigh) {
+            boolean is = first >= firstLow && first <= firstHigh;
+            return is ? ((left - 1) * scan.radii + first) * codes + tail[code] : NONE;
+        }
+
+        /** The best of what is to come by way of a window whose last place has a radius, 0 without. */
+        private int onward(int window, int place, int radius) {
+            if (radius < 0 || radius >= scan.radii || ahead[window] == 0) {
                 return 0;
             }
-            int rest = ahead[((left - 1) * scan.radii + first) * codes + tail[code] + change];
-            return rest == 0 ? 0 : rest + gain[to];
+            int add = gain[place * scan.radii + radius];
+            return add == NONE ? 0 : ahead[window] + add;
         }
 
         private static int better(int one, int two) {
@@ -1011,26 +1025,25 @@ public final class CharredRoll {
             int windows = firstWindows(slice);
             int best = 0;
             for (int window = 0; window < windows; window++) {
-                best = better(best, withWindow(slice, toCome, window));
+                best = better(best, withWindow(toCome, window));
             }
             ways[slice] = best & WAYS_MASK;
             fit[slice] = best >> FIT_SHIFT;
         }
 
         /** The best of all SPIRALS that begin with a window, 0 without. */
-        private int withWindow(int slice, int toCome, int window) {
-            int rest = ahead[toCome * scan.radii * codes + window];
+        private int withWindow(int toCome, int window) {
+            int all = ahead[toCome * scan.radii * codes + window];
             int first = window / codes;
             int start = window % codes * scan.angles;
-            for (int place = 0; place < scan.angles && rest != 0; place++) {
+            for (int place = 0; place < scan.angles && all != 0; place++) {
                 int radius = first + shape[start + place];
-                int pinned = scan.pinned[slice * MOST_PLACES + place];
-                if (!within(radius, 0, scan.radii - 1) || (pinned != NONE && pinned != radius)) {
+                if (radius < 0 || radius >= scan.radii || gain[place * scan.radii + radius] == NONE) {
                     return 0;
                 }
-                rest += scan.greyAt(slice, place, radius) << FIT_SHIFT;
+                all += gain[place * scan.radii + radius];
             }
-            return rest;
+            return all;
         }
 
         /** Follows the best on from a window, always by the least radius or always by the greatest. */
@@ -1044,9 +1057,11 @@ public final class CharredRoll {
                 row[start + place] = radius + shape[code * scan.angles + place];
             }
             for (int left = toCome; left > 0; left--) {
-                prepare(slice, left);
-                int change = bestChange(left, radius, code, fromAbove);
-                row[start + scan.places(slice) - left] = radius + rise(code) + change - 1;
+                int place = scan.angles + toCome - left;
+                boundFirst(slice, place - scan.angles + 1);
+                int to = bestNext(left, place, radius, code, fromAbove);
+                row[start + place] = to;
+                int change = to - radius - rise[code] + 1;
                 radius += head[code];
                 code = tail[code] + change;
             }
@@ -1056,7 +1071,7 @@ public final class CharredRoll {
             int windows = firstWindows(slice);
             for (int i = 0; i < windows; i++) {
                 int window = fromAbove ? windows - 1 - i : i;
-                int way = withWindow(slice, toCome, window);
+                int way = withWindow(toCome, window);
                 if (way != 0 && way >> FIT_SHIFT == fit[slice]) {
                     return window;
                 }
@@ -1064,16 +1079,20 @@ public final class CharredRoll {
             return 0;
         }
 
-        private int bestChange(int left, int radius, int code, boolean fromAbove) {
+        /** The least radius, or the greatest, by which a window goes on at its best. */
+        private int bestNext(int left, int place, int radius, int code, boolean fromAbove) {
             int fitToCome = ahead[(left * scan.radii + radius) * codes + code] >> FIT_SHIFT;
-            for (int i = 0; i < 3; i++) {
-                int change = fromAbove ? 2 - i : i;
-                int way = onward(left, radius, code, change);
+            int behind = windowBehind(left, radius, code);
+            int last = radius + rise[code];
+            int least = leastChange(code);
+            for (int i = least; i < 3 && behind != NONE; i++) {
+                int change = fromAbove ? 2 + least - i : i;
+                int way = onward(behind + change, place, last + change - 1);
                 if (way != 0 && way >> FIT_SHIFT == fitToCome) {
-                    return change;
+                    return last + change - 1;
                 }
             }
-            return 1;
+            return last;
         }
 
         int widthAt(int k, int place) {
@@ -1251,7 +1270,6 @@ public final class CharredRoll {
 
         /** Writes the text's code from a place of a row on; answers whether it has no FAULT. */
         boolean readInto(int[] code, int from) {
-            fault = 0;
             faultPlace = NONE;
             codeSize = 0;
             next = 0;
