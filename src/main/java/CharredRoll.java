@@ -1084,9 +1084,9 @@ public final class CharredRoll {
             int fitToCome = ahead[(left * scan.radii + radius) * codes + code] >> FIT_SHIFT;
             int behind = windowBehind(left, radius, code);
             int last = radius + rise[code];
-            int least = leastChange(code);
-            for (int i = least; i < 3 && behind != NONE; i++) {
-                int change = fromAbove ? 2 + least - i : i;
+            int fewest = leastChange(code);
+            for (int i = fewest; i < 3 && behind != NONE; i++) {
+                int change = fromAbove ? 2 + fewest - i : i;
                 int way = onward(behind + change, place, last + change - 1);
                 if (way != 0 && way >> FIT_SHIFT == fitToCome) {
                     return last + change - 1;
