@@ -63,40 +63,6 @@ public final class PromisesTest {
     is(what, got ? 1 : 0, 0);
   }
 
-  private static void tape(CharredRoll x, String text) {
-    x.end(0);
-    for (int i = 0; i < text.length(); i += 20) {
-      int[] f = new int[5];
-      for (int j = 0; j < 20; j++) {
-        f[j / 4] = f[j / 4] << 8 | (i + j < text.length() ? text.charAt(i + j) : 0);
-      }
-      x.feed(f[0], f[1], f[2], f[3], f[4]);
-    }
-    x.end(text.length());
-  }
-
-  private static int read(CharredRoll x, String text) {
-    tape(x, text);
-    return x.reader();
-  }
-
-  /** Slices of three angles and four radii, three turns each; THE BEST goes 0 0 0 1 1 1 2 2 2. */
-  private static CharredRoll threeTurns() {
-    CharredRoll x = new CharredRoll(3, 4);
-    for (int slice = 0; slice < 6; slice++) {
-      x.wound(slice, 3);
-    }
-    return x;
-  }
-
-  /** CRACK of 9 where THE BEST of threeTurns goes by, so that "ink crack>4;" sees a box of nine bits there. */
-  private static void draw(CharredRoll x, int slice, int place, int bits) {
-    for (int i = 0; i < 9; i++) {
-      int at = place + i % 3;
-      x.grey(slice + i / 3, at % 3, at / 3, 0, (bits >> i & 1) * 9);
-    }
-  }
-
   private static void newObject() {
     promise = 1;
     int[][] sizes = {{2, 3, 3, 4}, {3, 4, 3, 4}, {4, 7, 4, 7}, {6, 12, 6, 12}, {7, 13, 6, 12}, {MIN, MAX, 3, 12},
@@ -131,7 +97,7 @@ public final class PromisesTest {
     x.wound(0, 1);
     yes("grey", x.grey(0, 0, 1, 7, 3));
     is("fit", x.best(0, 0), 7);
-    is("reader", read(x, "ink crack=3;"), 0);
+    is("reader", Rolls.read(x, "ink crack=3;"), 0);
     is("crack", x.ink(0, 0, 0), 1);
     int[][] bad = {{-1, 0, 1, 9, 9}, {6, 0, 1, 9, 9}, {0, -1, 1, 9, 9}, {0, 3, 1, 9, 9}, {0, 0, -1, 9, 9},
         {0, 0, 4, 9, 9}, {0, 0, 1, -1, 9}, {0, 0, 1, 10, 9}, {0, 0, 1, 9, -1}, {0, 0, 1, 9, 10}, {MIN, MIN, MIN, MIN, MIN},
@@ -159,7 +125,7 @@ public final class PromisesTest {
     yes("column", x.column(0, 0, 4321));
     is("the highest digit is the highest radius", x.best(0, 0), 4);
     is("where", x.best(0, 100), 3);
-    read(x, "ink crack=6;");
+    Rolls.read(x, "ink crack=6;");
     is("crack as it is", x.ink(0, 0, 0), 1);
     no("five digits", x.column(0, 0, 10000));
     no("below 0", x.column(0, 0, -1));
@@ -469,15 +435,15 @@ public final class PromisesTest {
     CharredRoll x = new CharredRoll(3, 4);
     is("an empty text", x.reader(), 0);
     x.learnt(0, 15);
-    is("a text", read(x, "ink 1=1;"), 1);
+    is("a text", Rolls.read(x, "ink 1=1;"), 1);
     is("the tape is empty then", x.about(9), 0);
     is("it learnt nothing", x.about(21), 0);
-    is("a fault", read(x, "ink 1=1"), -1);
+    is("a fault", Rolls.read(x, "ink 1=1"), -1);
     is("the tape is empty then too", x.about(9), 0);
     is("no reader more", x.about(2), 2);
-    is("another", read(x, "bare 1=1;"), 2);
-    is("blanks", read(x, " \n \n"), 3);
-    tape(x, "ink 1=1");
+    is("another", Rolls.read(x, "bare 1=1;"), 2);
+    is("blanks", Rolls.read(x, " \n \n"), 3);
+    Rolls.tape(x, "ink 1=1");
     is("there are 4", x.reader(), -1);
     is("the tape stays", x.about(9), 7);
     is("the text was not read", x.fault(0), 0);
@@ -527,14 +493,14 @@ public final class PromisesTest {
     };
     for (Object[] t : texts) {
       x.back();
-      is("reader of " + t[0], read(x, (String) t[0]), (Integer) t[1] == 0 ? 0 : -1);
+      is("reader of " + t[0], Rolls.read(x, (String) t[0]), (Integer) t[1] == 0 ? 0 : -1);
       is("fault of " + t[0], x.fault(0), (Integer) t[1]);
       is("its place in " + t[0], x.fault(1), (Integer) t[2]);
     }
     for (int what : new int[] {-1, 2, MIN, MAX}) {
       is("fault(" + what + ")", x.fault(what), -1);
     }
-    read(x, "ink !");
+    Rolls.read(x, "ink !");
     is("back leaves it", x.back(), 0);
     is("fault", x.fault(0), 1);
     is("place", x.fault(1), 4);
@@ -543,7 +509,7 @@ public final class PromisesTest {
   /** Whether a question is answered with yes at a place. */
   private static void so(CharredRoll x, int slice, int place, String question) {
     x.image();
-    int reader = read(x, "ink " + question + ";");
+    int reader = Rolls.read(x, "ink " + question + ";");
     is(question + " at " + slice + ", " + place, x.ink(reader, slice, place), 1);
     x.back();
   }
@@ -592,7 +558,7 @@ public final class PromisesTest {
         "not 1=1 and 2=2", "7/2=4", "-7/2=-4", "10-(4-3)=3", "not 1=2 and 1=2"};
     for (String sum : untrue) {
       y.image();
-      is(sum, y.ink(read(y, "ink " + sum + ";"), 0, 1), 0);
+      is(sum, y.ink(Rolls.read(y, "ink " + sum + ";"), 0, 1), 0);
       y.back();
     }
     clauses();
@@ -600,10 +566,10 @@ public final class PromisesTest {
 
   private static void clauses() {
     CharredRoll x = new CharredRoll(3, 4);
-    read(x, "");
-    read(x, "ink 1=2;ink radius=1;");
-    read(x, "bare turn=1;ink angle>0;");
-    read(x, "ink radius=1;bare angle=2;bare 1=2;");
+    Rolls.read(x, "");
+    Rolls.read(x, "ink 1=2;ink radius=1;");
+    Rolls.read(x, "bare turn=1;ink angle>0;");
+    Rolls.read(x, "ink radius=1;bare angle=2;bare 1=2;");
     int[][] due = {{0, 0, 0, 0, 0, 0}, {0, 0, 0, 1, 1, 1}, {0, 1, 1, 0, 0, 0}, {0, 0, 0, 1, 1, 0}};
     for (int reader = 0; reader < 4; reader++) {
       for (int place = 0; place < 6; place++) {
@@ -649,8 +615,8 @@ public final class PromisesTest {
     promise = 18;
     CharredRoll x = new CharredRoll(3, 4);
     no("no reader yet", x.learnt(0, 0));
-    read(x, "");
-    read(x, "");
+    Rolls.read(x, "");
+    Rolls.read(x, "");
     for (int groups = 0; groups < 16; groups++) {
       yes("learnt", x.learnt(1, groups));
       is("groups", x.about(21), groups);
@@ -666,7 +632,7 @@ public final class PromisesTest {
   private static void right() {
     promise = 19;
     CharredRoll x = new CharredRoll(3, 4);
-    read(x, "ink angle=1;");
+    Rolls.read(x, "ink angle=1;");
     is("no bits", x.right(0, true, 1), 0);
     x.bit(0, 1, true, 0);
     x.bit(0, 2, true, 0);
@@ -748,8 +714,8 @@ public final class PromisesTest {
 
   private static void chances() {
     promise = 22;
-    CharredRoll x = threeTurns();
-    read(x, "");
+    CharredRoll x = Rolls.threeTurns();
+    Rolls.read(x, "");
     x.letter(0, 1);
     x.letter(511, 1);
     is("3 and 1 at first", x.box(0, 0, 0, 1), 999);
@@ -771,11 +737,11 @@ public final class PromisesTest {
 
   private static void box() {
     promise = 23;
-    CharredRoll x = threeTurns();
-    read(x, "ink crack>4;");
+    CharredRoll x = Rolls.threeTurns();
+    Rolls.read(x, "ink crack>4;");
     is("no letters", x.box(0, 0, 0, 0), -1);
     // Row 0 has columns 0 and 2, row 2 column 1.
-    draw(x, 1, 2, 0b010000101);
+    Rolls.draw(x, 1, 2, 0b010000101);
     x.letter(0b010000101, 1);
     x.letter(0b101111010, 99);
     x.letter(0b010000100, 3);
@@ -807,8 +773,8 @@ public final class PromisesTest {
 
   private static void joined() {
     promise = 24;
-    CharredRoll x = threeTurns();
-    read(x, "ink crack>4;");
+    CharredRoll x = Rolls.threeTurns();
+    Rolls.read(x, "ink crack>4;");
     is("no words", x.joined(0, 0, 0, 0), -1);
     x.letter(0b000000111, 10);
     x.letter(0b111000000, 10);
@@ -816,9 +782,9 @@ public final class PromisesTest {
     x.word(0, 1, -1, 2);
     x.word(0, 1, 0, 3);
     x.word(1, 1, 1, 99);
-    draw(x, 0, 0, 0b000000111);
-    draw(x, 0, 3, 0b111000000);
-    draw(x, 0, 6, 0b000000101);
+    Rolls.draw(x, 0, 0, 0b000000111);
+    Rolls.draw(x, 0, 3, 0b111000000);
+    Rolls.draw(x, 0, 6, 0b000000101);
     is("of like ones the lowest", x.joined(0, 0, 0, 0), 0);
     // Bits alike: 9 and 18 for what it's shorter; 18 and 9; 9, 9, 8; 3, 9, 4.
     long[] c = {2 * p3(27), 2 * p3(27), 3 * p3(26), 99 * p3(3 + 9 + 4)};
@@ -880,25 +846,25 @@ public final class PromisesTest {
 
   private static void printed() {
     promise = 26;
-    CharredRoll x = threeTurns();
+    CharredRoll x = Rolls.threeTurns();
     is("no readers", x.printed(0, 0, 0, 0, 1), -1);
-    read(x, "ink crack>4;");
+    Rolls.read(x, "ink crack>4;");
     is("no words", x.printed(1, 0, 0, 0, 1), -1);
     x.letter(0b000000111, 10);
     x.letter(0b111000000, 10);
     x.word(0, 1, -1, 50);
     x.word(1, 0, -1, 50);
-    draw(x, 0, 0, 0b000000111);
-    draw(x, 0, 3, 0b111000000);
+    Rolls.draw(x, 0, 0, 0b000000111);
+    Rolls.draw(x, 0, 3, 0b111000000);
     is("printed", x.printed(1, 0, 0, 999, 1), 0);
     is("odds", x.joined(0, 0, 0, 1), 999);
     is("more odds than there are", x.printed(1, 0, 0, 1000, 1), -1);
     is("two must count", x.printed(1, 0, 0, 0, 2), -1);
     is("no reader at all", x.printed(0, 0, 0, 0, 1), -1);
-    read(x, "ink crack>5;");
+    Rolls.read(x, "ink crack>5;");
     // Sees the other way round: where nothing is it sees ink of row 2 at first.
-    read(x, "ink slice=2 and turn=0;ink slice=0 and turn=1;");
-    read(x, "ink slice=2 and turn=0;ink slice=0 and turn=1;");
+    Rolls.read(x, "ink slice=2 and turn=0;ink slice=0 and turn=1;");
+    Rolls.read(x, "ink slice=2 and turn=0;ink slice=0 and turn=1;");
     is("two count", x.printed(3, 0, 0, 0, 2), 0);
     is("the others for another", x.printed(12, 0, 0, 0, 2), 1);
     is("as many for both: the lower", x.printed(15, 0, 0, 0, 1), 0);
@@ -925,8 +891,8 @@ public final class PromisesTest {
     for (int[] b : bad) {
       is("printed " + Arrays.toString(b), x.printed(b[0], b[1], b[2], b[3], b[4]), -1);
     }
-    CharredRoll y = threeTurns();
-    read(y, "");
+    CharredRoll y = Rolls.threeTurns();
+    Rolls.read(y, "");
     y.letter(0, 1);
     y.word(0, -1, -1, 1);
     is("one reader", y.printed(1, 3, 6, 1000, 1), 0);
@@ -936,17 +902,17 @@ public final class PromisesTest {
 
   /** A word may be the likeliest though ink alone reads one of its letters otherwise. */
   private static void byInkAlone() {
-    CharredRoll x = threeTurns();
-    read(x, "ink crack>4;");
+    CharredRoll x = Rolls.threeTurns();
+    Rolls.read(x, "ink crack>4;");
     x.letter(0b000000111, 10);
     x.letter(0b000000011, 10);
     x.word(0, 0, -1, 99);
-    draw(x, 0, 0, 0b000000111);
-    draw(x, 0, 3, 0b000000011);
+    Rolls.draw(x, 0, 0, 0b000000111);
+    Rolls.draw(x, 0, 3, 0b000000011);
     is("the word", x.joined(0, 0, 0, 0), 0);
     is("by ink alone", x.box(0, 0, 3, 0), 1);
     is("isn't printed", x.printed(1, 0, 0, 0, 1), -1);
-    draw(x, 0, 3, 0b000000111);
+    Rolls.draw(x, 0, 3, 0b000000111);
     is("is printed", x.printed(1, 0, 0, 0, 1), 0);
   }
 
@@ -1056,7 +1022,7 @@ public final class PromisesTest {
     x.pin(1, 0, 1);
     x.step(2);
     x.jump(1);
-    read(x, "ink crack>4;");
+    Rolls.read(x, "ink crack>4;");
     x.bit(0, 0, true, 0);
     x.learnt(0, 3);
     x.letter(1, 2);
@@ -1111,7 +1077,7 @@ public final class PromisesTest {
     x.letter(511, 99);
     x.word(1, -1, -1, 99);
     x.part(3, 3, 3);
-    read(x, "");
+    Rolls.read(x, "");
     x.column(1, 1, 4321);
     is("one bit again", x.back(), 1);
     is("all is so again", Arrays.equals(all(x), changed) ? 1 : 0, 1);
@@ -1124,15 +1090,15 @@ public final class PromisesTest {
     long[] first = all(x);
     for (int i = 0; i < 2; i++) {
       changeAll(x);
-      tape(x, "abc");
+      Rolls.tape(x, "abc");
       is("no bits", x.back(), 0);
       is("the image stays", Arrays.equals(all(x), first) ? 1 : 0, 1);
       is("the tape is as it was", x.about(9), 3);
       is("the latest fault too", x.fault(0), 0);
     }
-    is("a reader again", x.end(0) == 0 ? read(x, "!") : 0, -1);
+    is("a reader again", x.end(0) == 0 ? Rolls.read(x, "!") : 0, -1);
     x.image();
-    is("a text later", read(x, ""), 0);
+    is("a text later", Rolls.read(x, ""), 0);
     x.back();
     is("of the latest text", x.fault(0), 0);
     is("no reader", x.about(2), 0);
@@ -1141,8 +1107,8 @@ public final class PromisesTest {
   private static void about() {
     promise = 33;
     CharredRoll x = new CharredRoll(5, 9);
-    read(x, "");
-    read(x, "");
+    Rolls.read(x, "");
+    Rolls.read(x, "");
     x.learnt(1, 6);
     x.pin(0, 0, 0);
     for (int i = 0; i < 2; i++) {
