@@ -324,6 +324,29 @@ public final class EdgesOfPlansTest {
     return x;
   }
 
+  /** Changes of all that can be changed where every row is full. */
+  private static void changeAll(CharredRoll x) {
+    for (int slice = 0; slice < 6; slice++) {
+      x.wound(slice, 4 - x.about(10 + slice) % 4);
+      x.grey(slice, 0, 1, 9, 9);
+      x.column(slice, 1, 8642);
+    }
+    int steps = x.unwalk();
+    for (int i = 0; i < steps; i++) {
+      x.step(3);
+    }
+    x.jump(0);
+    x.learnt(0, 1);
+    x.learnt(1, 2);
+    x.bit(0, 0, false, 0);
+    x.bit(1, 1, true, 0);
+    x.chances(1, 3);
+    for (int roll = 0; roll < 4; roll++) {
+      x.fetch(roll, 3 + roll);
+    }
+    Rolls.tape(x, "ink 10000=1;");
+  }
+
   private static void back() {
     DOC.says("Promise 32", "BACK to THE IMAGE (it stays): how many BITS there are");
     CharredRoll x = full();
@@ -338,13 +361,16 @@ public final class EdgesOfPlansTest {
     DOC.yes("as a new one", Arrays.equals(Rolls.held(x), Rolls.held(new CharredRoll(3, 4))));
     CharredRoll y = full();
     y.image();
-    y.unwalk();
-    y.wound(0, 1);
-    y.learnt(3, 0);
-    y.bit(0, 0, false, 3);
-    y.grey(2, 2, 2, 9, 9);
+    changeAll(y);
     DOC.is("back to a full one", y.back(), 60);
     DOC.yes("as a full one", Arrays.equals(Rolls.held(y), Rolls.held(full())));
+    CharredRoll asked = Rolls.some();
+    asked.image();
+    changeAll(asked);
+    asked.best(0, 0);
+    asked.best(5, 0);
+    DOC.is("what was asked meanwhile doesn't matter", asked.back(), 4);
+    DOC.yes("as it was", Arrays.equals(Rolls.held(asked), Rolls.held(Rolls.some())));
     CharredRoll z = Rolls.some();
     for (int i = 0; i < 3; i++) {
       DOC.is("the image stays", z.back(), 2);

@@ -18,6 +18,9 @@ public final class EdgesOfReadersTest {
     theLongest();
     tenClauses();
     asOftenAsOneLikes();
+    notAsk();
+    comparisons();
+    namesAtTheirEnds();
     inAndOut();
     sharp();
     division();
@@ -213,12 +216,48 @@ public final class EdgesOfReadersTest {
     DOC.is("all kinds at once", inkOf("ink 1=2 or 1=1 and 8=" + "1+1*(".repeat(8) + "1" + ")".repeat(8) + ";"), 0);
   }
 
+  private static void notAsk() {
+    DOC.says("Terms II", "ASK: not ASK");
+    for (int nots = 0; nots <= 8; nots++) {
+      DOC.is(nots + " times not", inkOf("ink " + "not ".repeat(nots) + "1=1;"), 1 - nots % 2);
+      DOC.is(nots + " times not", inkOf("ink " + "not ".repeat(nots) + "1=2;"), nots % 2);
+    }
+    DOC.is("of the first alone", inkOf("ink not 1=1 or 1=1;"), 1);
+    DOC.is("of the first alone", inkOf("ink not 1=2 and 1=2;"), 0);
+  }
+
+  private static void comparisons() {
+    DOC.says("Terms II", "SUM one of < <= > >= = # (unlike) SUM");
+    String[] signs = {"<", "<=", ">", ">=", "=", "#"};
+    // One below the other, like it, one above it.
+    int[][] due = {{1, 0, 0}, {1, 1, 0}, {0, 0, 1}, {0, 1, 1}, {0, 1, 0}, {1, 0, 1}};
+    for (int i = 0; i < 6; i++) {
+      for (int other : new int[] {1, 9998}) {
+        for (int more = -1; more <= 1; more++) {
+          DOC.is(signs[i], inkOf("ink " + (other + more) + signs[i] + other + ";"), due[i][more + 1]);
+          DOC.is(signs[i], inkOf("ink -" + other + signs[i] + "-" + (other + more) + ";"), due[i][more + 1]);
+        }
+      }
+    }
+  }
+
   /** Whether a question is so at a place. */
   private static void isSoAt(CharredRoll x, int slice, int place, String question) {
     x.image();
     int reader = Rolls.read(x, "ink " + question + ";");
     DOC.is(question + " at " + slice + ", " + place, x.ink(reader, slice, place), 1);
     x.back();
+  }
+
+  private static void namesAtTheirEnds() {
+    DOC.says("Terms II", "NAMES of a SLICE and PLACE (by THE BEST): grey crack radius turn angle slice");
+    CharredRoll x = new CharredRoll(6, 12);
+    isSoAt(x, 0, 0, "grey=0 and crack=0 and radius=0 and turn=0 and angle=0 and slice=0");
+    x.wound(5, 4);
+    x.grey(5, 5, 11, 9, 9);
+    isSoAt(x, 5, 23, "grey=9 and crack=9 and radius=11 and turn=3 and angle=5 and slice=5");
+    isSoAt(x, 5, 18, "turn=3 and angle=0");
+    isSoAt(x, 5, 17, "turn=2 and angle=5");
   }
 
   private static void inAndOut() {
@@ -702,6 +741,19 @@ public final class EdgesOfReadersTest {
     x.image();
     x.back();
     DOC.is("an image leaves it", x.fault(1), 7);
+    String[] texts = {"ink ((((((((", "ink not not (1", "ink 1=1;ink 1=1", "ink 1=", TEN + "ink", "ink 1", "ink (1=", "ink -"};
+    for (String text : texts) {
+      CharredRoll z = new CharredRoll(3, 4);
+      Rolls.read(z, text);
+      Rolls.read(z, text);
+      DOC.is("nothing of a text is left for the next", Rolls.read(z, TEN), 0);
+      DOC.is("a sound text behind " + text, z.fault(0), 0);
+      DOC.is("nothing is left for the next", Rolls.read(z, "ink --------(1)=1;"), -1);
+      DOC.is("a fault behind a sound text", z.fault(0), 3);
+      DOC.is("a fault behind a sound text", z.fault(1), 12);
+      DOC.is("a sound text again", Rolls.read(z, "ink ((((((((1))))))))=1;"), 1);
+      DOC.is("which sees", z.ink(1, 0, 0), 1);
+    }
     DOC.says("Promise 15", "NONE for others, and ahead of any");
     for (int what : new int[] {-1, 2, MIN, MAX}) {
       DOC.is("what " + what, x.fault(what), -1);

@@ -259,6 +259,10 @@ public final class EdgesOfWordsTest {
       z.letter(i, 99);
     }
     DOC.is("the greatest chances", z.box(0, 0, 0, 1), 83);
+    CharredRoll least = sheet();
+    least.chances(1, 1);
+    least.letter(511, 1);
+    DOC.is("the least chance", least.box(0, 0, 0, 1), 1000);
   }
 
   private static void wordsThatAreAsked() {
@@ -358,6 +362,12 @@ public final class EdgesOfWordsTest {
     y.word(1, 1, 1, 1);
     DOC.is("nearly all", y.joined(0, 0, 0, 1), 999);
     DOC.is("nearly none", y.joined(0, 0, 0, 101), 0);
+    CharredRoll least = sheet();
+    least.chances(1, 1);
+    least.letter(511, 1);
+    least.word(0, 0, 0, 1);
+    DOC.is("the least chance", least.joined(0, 0, 0, 1), 1000);
+    DOC.is("the least chance", least.joined(0, 0, 0, 100), 1000);
   }
 
   private static void tenths() {

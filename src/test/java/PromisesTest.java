@@ -491,7 +491,12 @@ public final class PromisesTest {
         {ten, 0, -1}, {ten + " \n", 0, -1}, {ten + "ink", 4, 80}, {ten + " bare", 4, 81}, {ten + "grey", 1, 80},
         {ten + "99999", 1, 80}, {ten + "!", 1, 80}, {"ink 1=1;bare", 1, 12}, {"ink 99999=!", 2, 4}, {"ink !=99999", 1, 4},
     };
-    for (Object[] t : texts) {
+    for (int i = 0; i < texts.length; i++) {
+      Object[] t = texts[i];
+      // Several texts one behind the other, but no more calls than an object is made for.
+      if (i % 20 == 0) {
+        x = new CharredRoll(3, 4);
+      }
       x.back();
       is("reader of " + t[0], Rolls.read(x, (String) t[0]), (Integer) t[1] == 0 ? 0 : -1);
       is("fault of " + t[0], x.fault(0), (Integer) t[1]);
@@ -547,19 +552,19 @@ public final class PromisesTest {
         "9999*9999=1000*1000", "9999*9999-1=1000*1000-1", "9999*9999/9999=100", "-9999*9999=0-1000*1000",
         "0-9999*9999-9999*9999=-(1000*1000)", "9999*9999*9999=1000*1000", "1000*1000+1-1=1000*1000-1",
         "-(9999*9999)*-9999=1000*1000", "9999*9999/1000=1000", "-9999*9999/1000=-1000", "1000*1000/1000=1000",
-        "(1000*1000+9999)/1000=1000", "(-1000*1000-9999)/1000=-1000", "(1000*999+999)/1000=999", "1<2", "1<=1", "1<=2", "2>1", "2>=2", "2>=1", "1#2", "not 1#1", "not 2<2",
+        "(1000*1000+9999)/1000=1000", "(-1000*1000-9999)/1000=-1000", "(1000*999+999)/1000=999", "1<2", "1<=1", "1<=2",
+        "2>1", "2>=2", "2>=1", "1#2", "not 1#1", "not 2<2",
         "not 2>2", "not 1>=2", "not 2<=1", "not 1=2", "not not 1=1", "not 1=1 or 2=2", "1=1 or 1=1 and 1=2",
         "1=2 and 1=2 or 1=1", "not 1=2 and 2=2", "1=2 or 1=2 or 1=1", "not (2-1)*0=1",
         "1+1=4/2", "2*(3+4)*5=70", "1=1\nand\n2=2"};
     for (String sum : sums) {
-      so(y, 0, 1, sum);
+      so(new CharredRoll(3, 4), 0, 1, sum);
     }
     String[] untrue = {"1<1", "2<1", "1>1", "2<=1", "1>=2", "1#1", "1=2", "not 1=1", "1=1 and 1=2", "1=2 or 2=1",
         "not 1=1 and 2=2", "7/2=4", "-7/2=-4", "10-(4-3)=3", "not 1=2 and 1=2"};
     for (String sum : untrue) {
-      y.image();
-      is(sum, y.ink(Rolls.read(y, "ink " + sum + ";"), 0, 1), 0);
-      y.back();
+      CharredRoll z = new CharredRoll(3, 4);
+      is(sum, z.ink(Rolls.read(z, "ink " + sum + ";"), 0, 1), 0);
     }
     clauses();
   }

@@ -46,7 +46,7 @@ final class Rolls {
     x.pin(slice, 1, 3);
   }
 
-  /** A roll of which everything has been told, with an image that is another, a tape and a latest FAULT: 74 calls. */
+  /** A roll of which everything has been told, with an image that is another, a tape and a latest FAULT. */
   static CharredRoll some() {
     CharredRoll x = new CharredRoll(3, 4);
     int[] turns = {3, 3, 3, 2, 1, 4};
@@ -90,7 +90,7 @@ final class Rolls {
     return x;
   }
 
-  /** All that an image holds, as answers: 259 calls at most with three readers, none of which changes anything. */
+  /** All that an image holds, as answers, by so many calls that a full roll still has enough left for them. */
   static long[] held(CharredRoll x) {
     long[] row = new long[400];
     int n = 0;
@@ -105,7 +105,7 @@ final class Rolls {
         row[n++] = x.best(slice, 100 + place);
       }
       for (int reader = 0; reader < x.about(2); reader++) {
-        for (int place = 0; place < Math.min(5, places); place++) {
+        for (int place = 0; place < Math.min(reader < 2 ? 5 : 1, places); place++) {
           row[n++] = x.ink(reader, slice, place);
         }
       }
@@ -139,7 +139,8 @@ final class Rolls {
   /** All that can be asked, the tape, the latest FAULT and the image too. The roll is of no use afterwards. */
   static long[] all(CharredRoll x) {
     long[] now = held(x);
-    long[] behind = {x.about(9), x.fault(0), x.fault(1), x.reader(), x.fault(0), x.fault(1), x.ink(2, 0, 3), x.back(), x.about(2)};
+    long[] behind = {x.about(9), x.fault(0), x.fault(1), x.reader(), x.fault(0), x.fault(1), x.ink(2, 0, 3), x.back(),
+        x.about(2)};
     long[] image = new long[60];
     int n = 0;
     for (int what = 3; what < 22; what++) {
