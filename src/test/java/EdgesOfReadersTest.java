@@ -474,6 +474,8 @@ public final class EdgesOfReadersTest {
     isSound("ink " + NOTS + "1=1 or " + NOTS + "1=1;");
     isSound("ink " + NOTS + "1=1;ink " + NOTS + "1=1;");
     isText("ink " + NOTS + "1=1 and " + NOTS + "not 1=1;", 3, 76);
+    isText("ink 1=1 and 1=1 or 1=1 or " + NOTS + "not 1=1;", 3, 58);
+    isText("ink 1+1*1=1 and " + less + "-1=1;", 3, 24);
     // - between two PRODUCTS opens nothing.
     isSound("ink " + NOTS + "1-1=1;");
     isSound("ink " + open + "1-1-1" + shut + "=1;");
@@ -741,10 +743,13 @@ public final class EdgesOfReadersTest {
     x.image();
     x.back();
     DOC.is("an image leaves it", x.fault(1), 7);
-    String[] texts = {"ink ((((((((", "ink not not (1", "ink 1=1;ink 1=1", "ink 1=", TEN + "ink", "ink 1", "ink (1=", "ink -"};
+    String[] texts = {"ink ((((((((", "ink not not (1", "ink 1=1;ink 1=1", "ink 1=", TEN + "ink", "ink 1", "ink (1=", "ink -",
+        "ink 10000"};
     for (String text : texts) {
       CharredRoll z = new CharredRoll(3, 4);
       Rolls.read(z, text);
+      DOC.is("nothing of a text is left for an empty one", Rolls.read(z, ""), 0);
+      z.back();
       Rolls.read(z, text);
       DOC.is("nothing of a text is left for the next", Rolls.read(z, TEN), 0);
       DOC.is("a sound text behind " + text, z.fault(0), 0);

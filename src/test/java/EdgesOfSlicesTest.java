@@ -604,6 +604,17 @@ public final class EdgesOfSlicesTest {
     DOC.is("stretch", x.flat(2, 0, 1), 10);
     DOC.is("of itself alone", x.flat(2, 0, 2), 10);
     DOC.is("length 1 at least", x.flat(1, 0, 0), 1);
+    // Lengths 11 11 1, then 11 11 1 1: two of three have the greater, then as many have the lesser.
+    CharredRoll y = new CharredRoll(3, 12);
+    for (int slice = 0; slice < 6; slice++) {
+      y.wound(slice, slice < 3 ? 2 : 1);
+      y.pin(slice, 0, slice < 2 ? 10 : 0);
+    }
+    DOC.is("the greater of two and one", y.flat(2, 0, 0), 11);
+    DOC.is("stretch", y.flat(2, 0, 1), 10);
+    y.wound(3, 2);
+    DOC.is("the lesser of two and two", y.flat(2, 0, 0), 1);
+    DOC.is("stretch", y.flat(2, 0, 1), 20);
   }
 
   private static void newObject() {
