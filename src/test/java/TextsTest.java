@@ -3,25 +3,22 @@ import java.util.TreeMap;
 
 /** Many texts, read by CharredRoll and by PlainRoll: the same FAULT at the same place, or the same INK everywhere. */
 public final class TextsTest {
+  private static final int TEXTS_OF_A_ROLL = 5;
+
   public static void main(String[] args) {
     int rounds = args.length > 0 ? Integer.parseInt(args[0]) : 12000;
     SplittableRandom dice = new SplittableRandom(7);
-    CharredRoll roll = new CharredRoll(4, 6);
-    PlainRoll plain = new PlainRoll(4, 6);
-    for (int i = 0; i < 150; i++) {
-      int slice = dice.nextInt(6);
-      int angle = dice.nextInt(4);
-      int radius = dice.nextInt(6);
-      int grey = dice.nextInt(10);
-      int crack = dice.nextInt(10);
-      roll.grey(slice, angle, radius, grey, crack);
-      plain.grey(slice, angle, radius, grey, crack);
-    }
-    roll.image();
-    plain.image();
+    CharredRoll roll = null;
+    PlainRoll plain = null;
     int wrong = 0;
     TreeMap<Integer, Integer> faults = new TreeMap<>();
     for (int i = 0; i < rounds && wrong < 5; i++) {
+      // A few texts one behind the other, but no more calls than an object is made for.
+      if (i % TEXTS_OF_A_ROLL == 0) {
+        roll = new CharredRoll(4, 6);
+        plain = new PlainRoll(4, 6);
+        tell(dice, roll, plain);
+      }
       String text = new Texts(dice).any();
       if (!same(roll, plain, text)) {
         wrong++;
@@ -33,6 +30,20 @@ public final class TextsTest {
     if (wrong != 0 || faults.size() != 5) {
       System.exit(1);
     }
+  }
+
+  private static void tell(SplittableRandom dice, CharredRoll roll, PlainRoll plain) {
+    for (int i = 0; i < 150; i++) {
+      int slice = dice.nextInt(6);
+      int angle = dice.nextInt(4);
+      int radius = dice.nextInt(6);
+      int grey = dice.nextInt(10);
+      int crack = dice.nextInt(10);
+      roll.grey(slice, angle, radius, grey, crack);
+      plain.grey(slice, angle, radius, grey, crack);
+    }
+    roll.image();
+    plain.image();
   }
 
   private static boolean same(CharredRoll roll, PlainRoll plain, String text) {
