@@ -23,6 +23,7 @@ final class Edges {
   void says(String where, String words) {
     sentence = where + ", \"" + words + "\"";
     sentences++;
+    yes("the document's own words", Document.says(where, words));
   }
 
   void is(String call, long got, long due) {
